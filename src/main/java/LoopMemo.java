@@ -440,7 +440,7 @@ public final class LoopMemo {
         }
 
         int adjust(int what, int value) {
-            if (!isWithin(what, HIGH) || !isWithin(value, HIGHEST_SETTINGS[what])) {
+            if (what < BOUND || what > HIGH || value < 0 || value > HIGHEST_SETTINGS[what]) {
                 return INVALID_ARGUMENT;
             }
             settings[what] = value;
@@ -569,15 +569,15 @@ public final class LoopMemo {
         }
 
         int key(int row) {
-            return isWithin(row, MOST_ROWS - 1) ? keys[row] : 0;
+            return row >= 0 && row < keys.length ? keys[row] : 0;
         }
 
         int value(int row) {
-            return isWithin(row, MOST_ROWS - 1) ? values[row] : 0;
+            return row >= 0 && row < values.length ? values[row] : 0;
         }
 
         void put(int row, int key, int value) {
-            if (isWithin(row, MOST_ROWS - 1)) {
+            if (row >= 0 && row < keys.length && row < values.length) {
                 keys[row] = key;
                 values[row] = value;
             }
@@ -654,7 +654,7 @@ public final class LoopMemo {
             for (int row = inner.size() - 1; row >= 0; row--) {
                 int value = inner.value(row);
                 int key = inner.key(row);
-                if (isKey(key) && value >= low && value <= high) {
+                if (key >= 0 && key < KEYS && value >= low && value <= high) {
                     rows[key]++;
                     sums[key] += value;
                     firstRows[key] = row;
@@ -663,15 +663,15 @@ public final class LoopMemo {
         }
 
         int weight(int key) {
-            return WEIGHT_WITHOUT_ROWS + (isKey(key) ? rows[key] : 0);
+            return WEIGHT_WITHOUT_ROWS + (key >= 0 && key < rows.length ? rows[key] : 0);
         }
 
         int sum(int key) {
-            return isKey(key) ? sums[key] : 0;
+            return key >= 0 && key < sums.length ? sums[key] : 0;
         }
 
         int tell(int key, int what) {
-            if (!isKey(key)) {
+            if (key < 0 || key >= KEYS) {
                 return INVALID_ARGUMENT;
             }
             switch (what) {
@@ -706,11 +706,11 @@ public final class LoopMemo {
         }
 
         boolean holds(int key) {
-            return uses(key) > 0;
+            return key >= 0 && key < uses.length && uses[key] > 0;
         }
 
         int uses(int key) {
-            return isKey(key) ? uses[key] : 0;
+            return key >= 0 && key < uses.length ? uses[key] : 0;
         }
 
         int size() {
@@ -722,7 +722,7 @@ public final class LoopMemo {
         }
 
         void take(int key) {
-            if (isKey(key)) {
+            if (key >= 0 && key < KEYS) {
                 looks++;
                 uses[key] = 1;
                 firstLooks[key] = looks;
@@ -731,7 +731,7 @@ public final class LoopMemo {
         }
 
         void touch(int key) {
-            if (isKey(key)) {
+            if (key >= 0 && key < KEYS) {
                 looks++;
                 uses[key]++;
                 lastLooks[key] = looks;
@@ -739,7 +739,7 @@ public final class LoopMemo {
         }
 
         void lose(int key) {
-            if (isKey(key)) {
+            if (key >= 0 && key < uses.length) {
                 uses[key] = 0;
             }
         }
@@ -828,7 +828,7 @@ public final class LoopMemo {
         }
 
         private State slot(int i) {
-            return isWithin(i, SLOTS - 1) ? slots[i] : null;
+            return i >= 0 && i < slots.length ? slots[i] : null;
         }
     }
 
@@ -839,7 +839,6 @@ public final class LoopMemo {
     private static final class Pad {
         private static final int LEAST_CODE = 33;
         private static final int GREATEST_CODE = 126;
-        private static final int HIGHEST_INNER_ROW = MOST_ROWS - 1;
 
         private final int[] codes = new int[PAD_LENGTH];
         private int size;
@@ -927,10 +926,16 @@ public final class LoopMemo {
             sign = code(at);
             at++;
             switch (sign) {
-                case 's': return readFirst(1, MOST_STEPS);
-                case '-': return readFirst(0, HIGHEST_INNER_ROW);
-                case '+': return readRow();
-                case 'r': return true;
+                case 's':
+                    first = readNumber(1, MOST_STEPS);
+                    return first >= 0;
+                case '-':
+                    first = readNumber(0, MOST_ROWS - 1);
+                    return first >= 0;
+                case '+':
+                    return readRow();
+                case 'r':
+                    return true;
                 default:
                     at = start;
                     return false;
@@ -938,27 +943,23 @@ public final class LoopMemo {
         }
 
         private boolean readRow() {
-            if (!readFirst(0, KEYS - 1) || !takes(':')) {
+            first = readNumber(0, KEYS - 1);
+            if (first < 0 || !takes(':')) {
                 return false;
             }
             second = readNumber(0, HIGHEST_VALUE);
             return second >= 0;
         }
 
-        private boolean readFirst(int least, int most) {
-            first = readNumber(least, most);
-            return first >= 0;
-        }
-
-        /** Less than 0 if there is none. Each number of one digit must be at most `most`. */
+        /** Returns NOT_FOUND if there is none. `most` is 9 at least, so that no first digit is too great. */
         private int readNumber(int least, int most) {
-            int digit = digit(at);
-            if (digit < least) {
+            int digit = code(at) - '0';
+            if (digit < least || digit > 9) {
                 return NOT_FOUND;
             }
             at++;
-            int next = digit(at);
-            if (digit == 0 || next < 0 || 10 * digit + next > most) {
+            int next = code(at) - '0';
+            if (digit == 0 || next < 0 || next > 9 || 10 * digit + next > most) {
                 return digit;
             }
             at++;
@@ -973,11 +974,7 @@ public final class LoopMemo {
             return true;
         }
 
-        private int digit(int position) {
-            int code = code(position);
-            return code >= '0' && code <= '9' ? code - '0' : NOT_FOUND;
-        }
-
+        /** 0, which no character of the pad is, outside of what the pad holds. */
         private int code(int position) {
             return position >= 0 && position < size && position < codes.length ? codes[position] : 0;
         }
