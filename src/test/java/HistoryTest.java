@@ -7,6 +7,7 @@ public final class HistoryTest {
         noOtherCallIsRecorded();
         fourStatesAreKept();
         undoBringsAllBack();
+        undoBringsTheOrderBack();
         undoLeavesPadAndSnapshot();
         refusedCallsLeaveTheHistory();
         snapshotIsRestored();
@@ -145,6 +146,38 @@ public final class HistoryTest {
         }
     }
 
+    private static void undoBringsTheOrderBack() {
+        for (int rule = 0; rule < 3; rule++) {
+            LoopMemo x = new LoopMemo();
+            x.set(LoopMemo.RULE, rule);
+            Check.addRows(x, false, "3:1,2:1,1:1,3:1,1:1,2:1,4:1");
+            x.step(5);
+            int[] places = new int[10];
+            for (int key = 0; key < 10; key++) {
+                places[key] = x.remembered(key, 5);
+            }
+            x.save();
+            x.forget();
+            x.step(2);
+            x.again();
+            x.step(3);
+            x.restore();
+            for (int key = 0; key < 10; key++) {
+                check.due("rule " + rule + ": place of " + key + ", restored", x.remembered(key, 5), places[key]);
+            }
+            for (int i = 0; i < 4; i++) {
+                x.undo();
+            }
+            check.due("rule " + rule + ": place of 3, undone", x.remembered(3, 5), LoopMemo.NOT_FOUND);
+            x.restore();
+            x.forget();
+            x.undo();
+            for (int key = 0; key < 10; key++) {
+                check.due("rule " + rule + ": place of " + key + ", undone", x.remembered(key, 5), places[key]);
+            }
+        }
+    }
+
     private static void undoLeavesPadAndSnapshot() {
         LoopMemo x = new LoopMemo();
         x.add(true, 1, 1);
@@ -177,8 +210,11 @@ public final class HistoryTest {
         check.due("states", x.count(19), 4);
         check.due("undo() undoes the step", x.undo(), 3);
         check.due("place", x.count(4), 0);
-        check.due("undo() undoes a row", x.undo(), 2);
-        check.due("rows", x.count(0), 4);
+        for (int rows = 4; rows >= 2; rows--) {
+            check.due("undo() undoes a row", x.undo(), rows - 2);
+            check.due("rows", x.count(0), rows);
+        }
+        check.due("no more states", x.undo(), LoopMemo.NOT_POSSIBLE);
     }
 
     private static void snapshotIsRestored() {

@@ -8,6 +8,8 @@ public final class LooksTest {
         rememberedTells();
         countTells();
         totalTells();
+        totalWithoutRowsThatWent();
+        leastKeyAndGreatestKey();
         rateTells();
         looksChangeNothing();
         check.end();
@@ -123,6 +125,42 @@ public final class LooksTest {
         LoopMemo empty = new LoopMemo();
         check.due("total(0) without rows", empty.total(0), 0);
         check.due("total(1) without rows", empty.total(1), 0);
+    }
+
+    private static void totalWithoutRowsThatWent() {
+        LoopMemo x = new LoopMemo();
+        Check.addRows(x, true, "1:10,1:5,1:7");
+        Check.addRows(x, false, "1:2,1:3");
+        check.due("total(0), the first inner row counts", x.total(0), 110);
+        check.due("total(1), the first inner row counts", x.total(1), 110);
+        x.drop(true, 2);
+        x.drop(false, 1);
+        check.due("total(0) behind drops", x.total(0), 30);
+        check.due("total(1) behind drops", x.total(1), 30);
+    }
+
+    private static void leastKeyAndGreatestKey() {
+        int[] keys = {0, 9};
+        for (int key : keys) {
+            LoopMemo x = new LoopMemo();
+            x.add(true, 5, 1);
+            x.add(true, key, 10);
+            x.add(true, key, 20);
+            x.add(false, key, 3);
+            x.add(false, key, 4);
+            x.step(2);
+            dueNumbers("answer for " + key, answers(x, key), 2, 4, 30, 1);
+            dueNumbers("remembered for " + key, known(x, key), 2, 4, 30, 1, 2, 0);
+            check.due("the total with key " + key, x.count(5), 210);
+            check.due("remembered with key " + key, x.count(2), 1);
+            check.due("weights with key " + key, x.count(3), 4);
+            check.due("the mark of key " + key, x.row(true, 1, 2), 1);
+            x.add(false, 5, 1);
+            x.step(1);
+            check.due("the place of 5 behind key " + key, x.remembered(5, 5), 1);
+            check.due("forget() with key " + key, x.forget(), 2);
+            check.due("none is left with key " + key, x.remembered(key, 4), LoopMemo.NOT_FOUND);
+        }
     }
 
     private static void rateTells() {

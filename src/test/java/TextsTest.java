@@ -8,6 +8,7 @@ public final class TextsTest {
         faultsOfDeeds();
         faultsOfLongPads();
         faultRefuses();
+        clearedTextsAreGone();
         fillAddsRows();
         fillRefuses();
         fillKeepsAnswersTrue();
@@ -54,7 +55,7 @@ public final class TextsTest {
         for (String text : unfinished) {
             dueFault(0, text, text.length());
         }
-        Object[][] faulty = {{"x", 0}, {":", 0}, {",", 0}, {"/:1", 0}, {"11:1", 1}, {"1;1", 1}, {"1,1", 1},
+        Object[][] faulty = {{"x", 0}, {":", 0}, {",", 0}, {"/:1", 0}, {"11:1", 1}, {"10:1", 1}, {"1;1", 1}, {"1,1", 1},
             {"1:x", 2}, {"1:,", 2}, {"1::", 2}, {"1:00", 3}, {"1:05", 3}, {"1:100", 4}, {"1:999", 4}, {"1:5;2:6", 3},
             {"1:5,,", 4}, {"1:5,x", 4}, {"1:5,2;6", 5}, {"1:5,2:6:", 7}, {"1:-5", 2}, {"1:5,2:07", 7}, {"s1", 0},
             {"1:5,s1", 4}, {"1:5~", 3}, {"+1:5", 0}, {"1:5x2:6", 3}, {"1:55,2:555,x", 9}};
@@ -75,7 +76,7 @@ public final class TextsTest {
         }
         Object[][] faulty = {{"1:5", 0}, {"S1", 0}, {";", 0}, {"s0", 1}, {"s01", 1}, {"sx", 1}, {"s21", 2}, {"s30", 2},
             {"s99", 2}, {"s100", 3}, {"s200", 3}, {"s1,", 2}, {"r1", 1}, {"rr", 1}, {"r,", 1}, {"-00", 2}, {"-01", 2},
-            {"-20", 2}, {"-29", 2}, {"-190", 3}, {"--", 1}, {"+:", 1}, {"+11", 2}, {"+1;", 2}, {"+1:00", 4},
+            {"-20", 2}, {"-29", 2}, {"-190", 3}, {"--", 1}, {"+:", 1}, {"+11", 2}, {"+10:1", 2}, {"+1;", 2}, {"+1:00", 4},
             {"+1:100", 5}, {"r;;", 2}, {"r;x", 2}, {"s1;1", 3}, {"+1:3,+", 4}, {"s2;s21;s0", 5}, {"-1;+x", 4}};
         for (Object[] row : faulty) {
             dueFault(1, (String) row[0], (Integer) row[1]);
@@ -102,6 +103,21 @@ public final class TextsTest {
         for (int way : wrong) {
             check.due("fault(" + way + ")", x.fault(way), LoopMemo.INVALID_ARGUMENT);
         }
+    }
+
+    private static void clearedTextsAreGone() {
+        LoopMemo x = new LoopMemo();
+        Check.type(x, "1:50,2:60");
+        Check.type(x, "1:");
+        check.due("fault(0) of a shorter text", x.fault(0), 2);
+        Check.type(x, "1:5");
+        check.due("fault(0) of a number that was longer", x.fault(0), LoopMemo.NOT_FOUND);
+        check.due("fill(true)", x.fill(true), 1);
+        check.due("its value", x.row(true, 0, 1), 5);
+        Check.type(x, "");
+        check.due("fault(0) of no text", x.fault(0), 0);
+        check.due("fault(1) of no text", x.fault(1), 0);
+        check.due("fill(true) of no text", x.fill(true), LoopMemo.NOT_POSSIBLE);
     }
 
     private static void fillAddsRows() {

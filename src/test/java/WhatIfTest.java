@@ -5,6 +5,7 @@ public final class WhatIfTest {
     public static void main(String[] args) {
         boundTellsTheRest();
         boundIsSetAtOnce();
+        boundByEachRule();
         boundOfALoopThatIsDone();
         boundRefuses();
         orders();
@@ -57,6 +58,25 @@ public final class WhatIfTest {
         check.due("a hit, if the bound is left alone", x.ifOrdered(0), 1);
         dueBrought(x, 4, 3, 0, 1, 2);
         dueBrought(x, 5, 1, 1, 0, 0);
+    }
+
+    /** Looked up: 1 2 1 3; left: 4 5 4 1 2 3. Each answer weighs 2. */
+    private static void boundByEachRule() {
+        int[][] want = {{11, 5}, {10, 4}, {11, 5}};
+        for (int rule = 0; rule < 3; rule++) {
+            LoopMemo x = new LoopMemo();
+            x.set(LoopMemo.BOUND, 6);
+            x.set(LoopMemo.RULE, rule);
+            Check.addRows(x, false, "1:1,2:1,1:1,3:1,4:1,5:1,4:1,1:1,2:1,3:1");
+            x.step(4);
+            int told = x.ifBound(6, 0);
+            int made = x.ifBound(6, 3);
+            int before = x.count(9);
+            check.due("rule " + rule + ": what was told is what it costs", x.step(20), told);
+            check.due("rule " + rule + ": what was told makes room", x.count(9) - before, made);
+            check.due("rule " + rule + ": the cost", told, want[rule][0]);
+            check.due("rule " + rule + ": thrown out", made, want[rule][1]);
+        }
     }
 
     private static void boundOfALoopThatIsDone() {
