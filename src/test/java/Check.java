@@ -2,8 +2,18 @@
 final class Check {
     private static final int MOST_PRINTED = 40;
 
+    private String about = "";
     private int right;
     private int wrong;
+
+    /** What is told wrong from here on is told with this ahead. */
+    void begin(String name) {
+        about = name + ": ";
+    }
+
+    int answers() {
+        return right + wrong;
+    }
 
     void due(String call, long got, long want) {
         if (got == want) {
@@ -43,7 +53,7 @@ final class Check {
     private void tellWrong(String text) {
         wrong++;
         if (wrong <= MOST_PRINTED) {
-            System.out.println(text);
+            System.out.println(about + text);
         }
     }
 

@@ -110,10 +110,14 @@ public final class HistoryTest {
         for (int what = 0; what < 18; what++) {
             text.append(x.count(what)).append(' ');
         }
-        for (int i = 0; i < 20; i++) {
-            for (int what = 0; what < 6; what++) {
-                text.append(x.row(true, i, what)).append(' ').append(x.row(false, i, what)).append(' ');
-                text.append(x.answer(i, what)).append(' ').append(x.remembered(i, what)).append(' ');
+        for (int row = 0; row < Math.max(x.count(0), x.count(1)); row++) {
+            for (int what = 0; what <= 2; what++) {
+                text.append(x.row(true, row, what)).append(' ').append(x.row(false, row, what)).append(' ');
+            }
+        }
+        for (int key = 0; key <= 5; key++) {
+            for (int what = 0; what <= 5; what++) {
+                text.append(x.answer(key, what)).append(' ').append(x.remembered(key, what)).append(' ');
             }
         }
         return text.append(x.rate()).toString();

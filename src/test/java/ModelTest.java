@@ -1,15 +1,26 @@
-/** Long runs of calls, drawn from a fixed row of numbers: LoopMemo and the plain model must answer alike. */
+/**
+ * Long runs of calls, drawn from a fixed row of numbers: LoopMemo and the plain model must answer alike. A run has the
+ * 512 calls that are promised, looks among them: first a drawn number of calls of all kinds, then looks alone.
+ */
 public final class ModelTest {
-    private static final int RUNS = 400;
+    private static final int RUNS = 6000;
     private static final int CALLS = 512;
+    /** A drawn call may be some calls together: so many are left free for them behind the last one. */
+    private static final int MOST_AT_ONCE = 10;
+    /** How many different arguments each of the looks is asked with; most of these are in range. */
+    private static final int COUNTS = 22, WHATS = 8, KEYS = 12, ROW_WHATS = 5, ROWS = 22, BOUNDS = 63, FEW = 5;
+    private static final int[] LOOKS = {COUNTS, WHATS * KEYS, WHATS * KEYS, ROW_WHATS * ROWS, ROW_WHATS * ROWS, FEW,
+        FEW, FEW, FEW, (FEW + 1) * BOUNDS, 1, 1};
     private static final int[] ODD_NUMBERS = {-1, -2, 100, 61, 21, 20, 10, 5, 3, Integer.MIN_VALUE, Integer.MAX_VALUE};
+
+    /** Signs of the texts, those beside the digits, and those on the edges of what append() takes. */
+    private static final String ODD_SIGNS = ":;,+-sr0129x/ !~\u007f";
 
     private final Check check = new Check();
     private long drawn;
     private int run;
     private int calls;
     private int keys;
-    private int errors;
     private LoopMemo x;
     private PlainModel model;
 
@@ -25,18 +36,28 @@ public final class ModelTest {
         run = number;
         drawn = 7919L * number;
         calls = 0;
-        errors = 0;
         keys = 2 + draw(9);
         x = new LoopMemo();
         model = new PlainModel();
-        lookAtAll();
-        for (int i = 0; calls < CALLS && check.isAllRight(); i++) {
+        int busy = 20 + draw(CALLS - MOST_AT_ONCE - 20);
+        int looks = draw(4);
+        while (calls < busy && check.isAllRight()) {
             makeCall();
-            if (i % 6 == 0) {
-                lookAtAll();
+            for (int i = 0; i < looks && calls < CALLS; i++) {
+                look(draw(allLooks()));
             }
         }
-        lookAtAll();
+        for (int next = draw(allLooks()); calls < CALLS && check.isAllRight(); next = (next + 1) % allLooks()) {
+            look(next);
+        }
+    }
+
+    private static int allLooks() {
+        int sum = 0;
+        for (int looks : LOOKS) {
+            sum += looks;
+        }
+        return sum;
     }
 
     private int draw(int below) {
@@ -59,7 +80,6 @@ public final class ModelTest {
 
     private void due(String call, long got, long want) {
         calls++;
-        errors += want < 0 ? 1 : 0;
         check.due("run " + run + ", call " + calls + ": " + call, got, want);
     }
 
@@ -161,9 +181,9 @@ public final class ModelTest {
             text.append(i == 0 ? "" : deeds ? ";" : ",").append(deeds ? deedText() : rowText());
         }
         if (draw(6) == 0) {
-            text.insert(draw(text.length() + 1), ":;,+-sr0129x\u007f".charAt(draw(13)));
+            text.insert(draw(text.length() + 1), ODD_SIGNS.charAt(draw(ODD_SIGNS.length())));
         }
-        for (int i = 0; i < text.length() && calls < CALLS; i++) {
+        for (int i = 0; i < text.length() && calls < CALLS - 3; i++) {
             int code = text.charAt(i);
             due("append(" + code + ")", x.append(code), model.append(code));
         }
@@ -190,30 +210,47 @@ public final class ModelTest {
         }
     }
 
-    /** These looks are not counted as calls of the run: they change nothing. */
-    private void lookAtAll() {
-        String at = "run " + run + ", behind call " + calls + ": ";
-        for (int what = -1; what <= 20; what++) {
-            check.due(at + "count(" + what + ")", x.count(what), model.count(what));
+    private void look(int number) {
+        int kind = 0;
+        while (kind < LOOKS.length - 1 && number >= LOOKS[kind]) {
+            number -= LOOKS[kind];
+            kind++;
         }
-        for (int what = -1; what <= 6; what++) {
-            for (int key = -1; key <= 10; key++) {
-                String end = "(" + key + ", " + what + ")";
-                check.due(at + "answer" + end, x.answer(key, what), model.answer(key, what));
-                check.due(at + "remembered" + end, x.remembered(key, what), model.remembered(key, what));
-            }
+        lookAt(kind, number);
+    }
+
+    private void lookAt(int kind, int number) {
+        int one = number - 1;
+        int what = number / KEYS - 1;
+        int key = number % KEYS - 1;
+        int rowWhat = number / ROWS - 1;
+        int row = number % ROWS - 1;
+        int brought = number / BOUNDS - 1;
+        int bound = number % BOUNDS - 1;
+        switch (kind) {
+            case 0: due("count(" + one + ")", x.count(one), model.count(one)); break;
+            case 1: due("answer(" + key + ", " + what + ")", x.answer(key, what), model.answer(key, what)); break;
+            case 2: due("remembered(" + key + ", " + what + ")", x.remembered(key, what),
+                    model.remembered(key, what)); break;
+            case 3: lookAtRow(true, row, rowWhat); break;
+            case 4: lookAtRow(false, row, rowWhat); break;
+            case 5: due("why(" + one + ")", x.why(one), model.why(one)); break;
+            case 6: due("total(" + one + ")", x.total(one), model.total(one)); break;
+            case 7: due("fault(" + one + ")", x.fault(one), model.fault(one)); break;
+            case 8: due("ifOrdered(" + one + ")", x.ifOrdered(one), model.ifOrdered(one)); break;
+            case 9: due("ifBound(" + bound + ", " + brought + ")", x.ifBound(bound, brought),
+                    model.ifBound(bound, brought)); break;
+            case 10: due("leastBound", x.leastBound(), model.leastBound()); break;
+            default: lookAtRate(); break;
         }
-        for (int what = -1; what <= 3; what++) {
-            for (int row = -1; row <= 20; row++) {
-                String end = ", " + row + ", " + what + ")";
-                check.due(at + "row(true" + end, x.row(true, row, what), model.row(true, row, what));
-                check.due(at + "row(false" + end, x.row(false, row, what), model.row(false, row, what));
-            }
-            check.due(at + "why(" + what + ")", x.why(what), model.why(what));
-            check.due(at + "total(" + what + ")", x.total(what), model.total(what));
-            check.due(at + "fault(" + what + ")", x.fault(what), model.fault(what));
-            check.due(at + "ifOrdered(" + what + ")", x.ifOrdered(what), model.ifOrdered(what));
-        }
-        check.dueDouble(at + "rate", x.rate(), model.rate());
+    }
+
+    private void lookAtRow(boolean inner, int row, int what) {
+        due("row(" + inner + ", " + row + ", " + what + ")", x.row(inner, row, what), model.row(inner, row, what));
+    }
+
+    private void lookAtRate() {
+        calls++;
+        check.dueDouble("run " + run + ", call " + calls + ": rate", x.rate(), model.rate());
     }
 }

@@ -142,11 +142,11 @@ public final class WhatIfTest {
     private static void dueLeast(String at, LoopMemo x, int want) {
         int least = x.leastBound();
         check.due(at + ": leastBound()", least, want);
+        int leastCost = x.ifBound(least, 0);
         for (int bound = 0; bound <= 60; bound++) {
             int cost = x.ifBound(bound, 0);
-            check.due(at + ": " + bound + " is no better", cost < x.ifBound(least, 0) ? 1 : 0, 0);
-            check.due(at + ": " + bound + " is no lesser one as good", bound < least && cost == x.ifBound(least, 0)
-                    ? 1 : 0, 0);
+            check.due(at + ": " + bound + " is no better", cost < leastCost ? 1 : 0, 0);
+            check.due(at + ": " + bound + " is no lesser one as good", bound < least && cost == leastCost ? 1 : 0, 0);
         }
     }
 
