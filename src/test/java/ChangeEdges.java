@@ -11,7 +11,7 @@ import java.util.function.ToIntFunction;
 import java.util.regex.Matcher;
 import java.util.regex.Pattern;
 
-/** A test for each sentence of 'Changes and errors' and of promises 18 and 24 to 26, and for the 512 calls. */
+/** A test for each sentence of 'Changes and errors' and of promises 18 and 24 to 26. */
 final class ChangeEdges {
     private static final int[] FAR = {Integer.MIN_VALUE, -100, Integer.MAX_VALUE};
     private static final Path SOURCE = Path.of("src/main/java/LoopMemo.java");
@@ -20,8 +20,6 @@ final class ChangeEdges {
     }
 
     static void all(Sentences s) {
-        s.section("What it is");
-        s.holds("An object is used for at most 512 calls after it has been made;", ChangeEdges::allCallsAnswer);
         s.section("Terms");
         s.holds("All numbers are whole numbers, but where a double is told.", ChangeEdges::wholeNumbers);
         changes(s);
@@ -213,25 +211,6 @@ final class ChangeEdges {
         refused.put("ifBound", x -> x.ifBound(61, 0));
         refused.put("ifOrdered", x -> x.ifOrdered(3));
         return refused;
-    }
-
-    private static void allCallsAnswer(Check c) {
-        LoopMemo x = new LoopMemo();
-        for (int call = 1; call <= 500; call++) {
-            c.due("set, call " + call, x.set(LoopMemo.LOW, call % 2), 0);
-        }
-        c.due("call 501", x.add(true, 1, 10), 0);
-        c.due("call 502", x.add(false, 1, 10), 0);
-        c.due("call 503", x.step(1), 3);
-        c.due("call 504", x.save(), 1);
-        c.due("call 505", x.drop(true, 0), 0);
-        c.due("call 506", x.undo(), 3);
-        c.due("call 507", x.restore(), 1);
-        c.due("call 508", x.append('r'), 1);
-        c.due("call 509", x.carryOut(), 1);
-        c.due("call 510", x.count(19), 4);
-        c.due("call 511", x.step(1), 1);
-        c.due("call 512", x.count(5), 100);
     }
 
     private static void wholeNumbers(Check c) {

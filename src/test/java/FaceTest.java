@@ -1,35 +1,62 @@
+import java.io.IOException;
 import java.lang.reflect.Constructor;
 import java.lang.reflect.Field;
 import java.lang.reflect.Method;
 import java.lang.reflect.Modifier;
+import java.nio.file.Files;
+import java.nio.file.Path;
 import java.util.Arrays;
-import java.util.List;
+import java.util.Set;
 import java.util.TreeSet;
+import java.util.regex.Matcher;
+import java.util.regex.Pattern;
 
 /** The face is the document's, and nothing else can be seen from outside (LANGUAGE.md, rules 1, 2, 5 and 11). */
 public final class FaceTest {
-    private static final List<String> METHODS = List.of(
-            "int add(boolean, int, int)", "int drop(boolean, int)", "int change(int, int, int)", "int step(int)",
-            "int again()", "int forget()", "int set(int, int)", "int append(int)", "int clear()", "int fault(int)",
-            "int fill(boolean)", "int carryOut()", "int why(int)", "int row(boolean, int, int)",
-            "int answer(int, int)", "int remembered(int, int)", "int count(int)", "int total(int)", "double rate()",
-            "int ifBound(int, int)", "int ifOrdered(int)", "int leastBound()", "int undo()", "int save()",
-            "int restore()");
-    private static final List<String> CONSTANTS = List.of(
-            "INVALID_ARGUMENT=-1", "NOT_POSSIBLE=-2", "LIMIT_REACHED=-3", "NOT_FOUND=-4", "BOUND=0", "RULE=1",
-            "KEEPING=2", "LOW=3", "HIGH=4");
+    private static final Path DOCUMENT = Path.of("../shared/DOC.md");
+    private static final Pattern FACE = Pattern.compile("^```java\n(.*?)^```$", Pattern.DOTALL | Pattern.MULTILINE);
+    private static final Pattern CONSTANTS_LINE = Pattern.compile("    public static final int (.*);");
+    private static final Pattern METHOD_LINE = Pattern.compile("    public (int|double) (\\w+)\\((.*)\\);");
+    private static final Set<String> OTHER_LINES =
+            Set.of("public final class LoopMemo {", "    public LoopMemo();", "}");
+
+    /** What the document shows, such as "int drop(boolean, int)" and "RULE=1". */
+    private static final TreeSet<String> METHODS = new TreeSet<>();
+    private static final TreeSet<String> CONSTANTS = new TreeSet<>();
     private static final int MOST_CLASSES = 12;
     private static final int MOST_FIELDS = 20;
     private static final int MOST_PARAMETERS = 7;
 
     private static final Check check = new Check();
 
-    public static void main(String[] args) throws IllegalAccessException {
+    public static void main(String[] args) throws IllegalAccessException, IOException {
+        readDocument();
         face();
         constants();
         nothingElse();
         classesInside();
         check.end();
+    }
+
+    private static void readDocument() throws IOException {
+        Matcher shown = FACE.matcher(Files.readString(DOCUMENT));
+        check.due("the document shows a face", shown.find() ? 1 : 0, 1);
+        for (String line : shown.group(1).split("\n")) {
+            Matcher constants = CONSTANTS_LINE.matcher(line);
+            Matcher method = METHOD_LINE.matcher(line);
+            if (constants.matches()) {
+                for (String constant : constants.group(1).split(", ")) {
+                    CONSTANTS.add(constant.replace(" ", ""));
+                }
+            } else if (method.matches()) {
+                METHODS.add(method.group(1) + " " + method.group(2) + "("
+                        + method.group(3).replaceAll(" \\w+(?=,|$)", "") + ")");
+            } else {
+                check.due("a line of the face that is not understood: " + line, OTHER_LINES.contains(line) ? 1 : 0, 1);
+            }
+        }
+        check.due("the methods that the document shows", METHODS.size(), 25);
+        check.due("the constants that it shows", CONSTANTS.size(), 9);
     }
 
     private static String told(Method method) {
@@ -48,7 +75,7 @@ public final class FaceTest {
                 check.due(told(method) + " is public and no more", method.getModifiers(), Modifier.PUBLIC);
             }
         }
-        check.dueText("the methods", found.toString(), new TreeSet<>(METHODS).toString());
+        check.dueText("the methods", found.toString(), METHODS.toString());
         Constructor<?>[] constructors = LoopMemo.class.getDeclaredConstructors();
         check.due("constructors", constructors.length, 1);
         check.dueText("the constructor", Arrays.toString(constructors), "[public LoopMemo()]");
@@ -66,7 +93,7 @@ public final class FaceTest {
                         Modifier.PUBLIC | Modifier.STATIC | Modifier.FINAL);
             }
         }
-        check.dueText("the constants", found.toString(), new TreeSet<>(CONSTANTS).toString());
+        check.dueText("the constants", found.toString(), CONSTANTS.toString());
     }
 
     private static void nothingElse() {

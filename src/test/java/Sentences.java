@@ -61,7 +61,7 @@ final class Sentences {
     }
 
     /** Tells each word of these sections that no test has named. */
-    void end(String first, String last) {
+    void areAllNamed(String first, String last) {
         boolean isWithin = false;
         for (Map.Entry<String, Section> entry : sections.entrySet()) {
             isWithin |= entry.getKey().equals(first);
@@ -71,6 +71,9 @@ final class Sentences {
             }
             isWithin &= !entry.getKey().equals(last);
         }
+    }
+
+    void end() {
         System.out.println(tests + " sentences have a test of their own");
         check.end();
     }
